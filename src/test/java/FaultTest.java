@@ -128,6 +128,7 @@ public final class FaultTest {
         hall(1, two + "hates a^;");
         hall(1, two + "hates ^judge a;");
         hall(1, two + "hates a ^judge;");
+        hall(1, two + "hates abcdef^g a;");
         hall(1, two + "hates a abcdef^g;");
         hall(0, two + "hates a m;hates m a;");
         hall(3, two + "hates a m;hates m a;hates a ^m;");
@@ -195,6 +196,9 @@ public final class FaultTest {
         hall(4, P + "weigh (1)+((((((3))))))+((((((min^(3,4)))))));");
         hall(1, P + "weigh ((((((min^;");
         hall(4, P + "cough ((((((^(");
+        hall(0, P + "weigh max(1,(((((2))))));");
+        hall(4, P + "weigh max(1,(((((^(2)))))));");
+        hall(4, P + "weigh max((((((^(2)))))),1);");
     }
 
     private static String many(int from, int to, String statement) {
@@ -234,6 +238,13 @@ public final class FaultTest {
         hall(1, "hall 3;weigh 1^\0;");
         hall(1, "hall 3;weigh 1^" + (char) 160 + ";");
         hall(1, "hall 3;weigh 1^" + (char) 255 + ";");
+        String full = " ".repeat(1593);
+        hall(0, full + "hall 3;");
+        hall(0, "hall 3;" + full);
+        hall(1, "hall " + full + "^;x");
+        hall(1, full + "^person");
+        hall(1, full + "hall  3^");
+        hall(1, " " + full + "hall 3^");
     }
 
     private static void questions() {

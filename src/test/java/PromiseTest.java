@@ -356,6 +356,10 @@ public final class PromiseTest {
         Due.is("16: others", x.hire(0, 1, 0, -1), NONE);
         x.take(1, 0, 1);
         Due.is("16: one hired already", x.hire(0, 1, 1330, 1), 1);
+        SilentCourt w = Due.court("hall 3;mute b keeps 5 costs 4;mute c keeps 50 costs 0;weigh keeps*seat;");
+        w.take(1, 0, 0);
+        Due.is("16: who is hired stays where he is", w.hire(0, 1, 5000, 0), NONE);
+        Due.is("16: the other one", w.hire(0, 1, 500, 1), 1);
         // of like many the least costs, then the least bits; no more than there are seats
         SilentCourt y = Due.court("hall 3;person a keeps 1 itches 0 for rogue at 1;mute b keeps 5 costs 4;mute c keeps 5 costs 3;"
                 + "mute d keeps 5 costs 3;mute e keeps 9 costs 99;");
@@ -439,6 +443,13 @@ public final class PromiseTest {
         Due.is("18: of like ones the first", y.points(1, 0), 1);
         Due.is("18: the rogue's best", y.points(2, 1), 0);
         Due.is("18: mean", y.points(3, NONE), 500);
+        SilentCourt z = Due.court("hall 3;person a keeps 1 itches 0 for judge at 0;point p judge 1 rogue 5;point q judge 3 rogue 9;"
+                + "weigh 2+asked*(1-minute*2)+max(0,minute-1)*99;");
+        // minute 0: 2 + asked, minute 1: 2 - asked, minute 2: 2 - 3 asked + 99
+        Due.is("18: ahead of each its own minute", z.points(3, 0), 1);
+        Due.is("18: ahead of each its own minute", z.points(3, 1), 1);
+        Due.is("18: ahead of each its own minute", z.points(3, 2), 0);
+        Due.is("18: mean", z.points(3, NONE), 500 + 0 + 9800);
     }
 
     private static void fellAndAsked() {
@@ -487,6 +498,9 @@ public final class PromiseTest {
         Due.on(x, Due.sealed(3, 0xe7 - 1, 1, 134, 160, 0, 0, 4));
         Due.is("21: up to 999", x.loudest(1), 0);
         Due.is("21: beyond 999", x.loudest(2), NONE);
+        SilentCourt y = Due.court("hall 2;person a keeps 50 itches 99 for judge at 0;noise at 0 seat 1 loud 1;noise at 0 seat 0 loud 1;"
+                + "weigh keeps-noise;");
+        Due.is("21: by a hundredth", y.loudest(1), 1);
         Due.is("21: without noises", Due.court("hall 3;").loudest(1), NONE);
     }
 
@@ -602,6 +616,12 @@ public final class PromiseTest {
         Due.is("26: for the judge", x.sits(11, 1), 0);
         Due.is("26: refused", x.status(3), 24);
         Due.is("6: acts", x.has(10), 9);
+        SilentCourt y = Due.court("hall 2;mute m keeps 1 costs 1;mute n keeps 2 costs 1;");
+        y.take(0, 0, 0);
+        y.dismiss(0);
+        Due.is("26: the first seat is free again", y.seat(0), NONE);
+        Due.is("25: for another one", y.take(1, 0, 0), true);
+        Due.is("25: for another one", y.seat(0), 11);
     }
 
     private static void undo() {
@@ -726,6 +746,22 @@ public final class PromiseTest {
         Due.is("31: below", x.octet(-1), NONE);
         Due.is("30: image", x.image(), 14);
         Due.is("31: dismissed", x.octet(11) + x.octet(12), 0);
+        StringBuilder all = new StringBuilder("hall 9;");
+        for (int k = 0; k < 8; k++) {
+            all.append("person a").append((char) ('a' + k)).append(" keeps 1 itches 0 for judge at ").append(8 - k).append(";");
+        }
+        for (int k = 0; k < 6; k++) {
+            all.append("mute m").append((char) ('a' + k)).append(" keeps 1 costs 0;");
+        }
+        SilentCourt full = Due.court(all.toString());
+        full.take(5, 1, 0);
+        int[] most = Due.sealed(0, 0, 1, 134, 160, 0, 8, 7, 6, 5, 4, 3, 2, 1, 0, 0, 0, 0, 0, 0, 0, 0, 0, 0, 1, 1);
+        Due.is("30: the longest", full.image(), 27);
+        for (int k = 0; k < 27; k++) {
+            Due.is("31: octet " + k, full.octet(k), most[k]);
+        }
+        Due.is("31: beyond", full.octet(27), NONE);
+        Due.is("32: the longest", Due.on(full, most), true);
         SilentCourt y = Due.court("hall 2;");
         Due.is("30: nobody", y.image(), 7);
         Due.is("31: the last byte", y.octet(6), 233);
