@@ -22,23 +22,11 @@ public final class FaultTest {
     }
 
     private static void hall(int fault, String marked) {
-        SilentCourt court = new SilentCourt();
-        int place = marked.indexOf('^');
-        String text = marked.replace("^", "");
-        int got = Due.hall(court, text);
-        Due.is("fault of " + marked, court.fault(0), fault);
-        Due.is("place of " + marked, court.fault(1), place);
-        Due.is("refused " + marked, court.status(1), fault == 0 ? 0 : 1);
-        Due.is("hall of " + marked, got == SilentCourt.NONE, fault != 0);
+        Due.hallHas(fault, marked);
     }
 
     private static void question(int fault, String marked) {
-        SilentCourt court = Due.court(P);
-        int place = marked.indexOf('^');
-        long got = Due.ask(court, marked.replace("^", ""));
-        Due.is("fault of " + marked, court.fault(0), fault);
-        Due.is("place of " + marked, court.fault(1), place);
-        Due.is("answer of " + marked, got == SilentCourt.NOTHING, fault != 0);
+        Due.questionHas(fault, marked, P);
     }
 
     private static void beginnings() {

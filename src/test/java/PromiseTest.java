@@ -506,7 +506,7 @@ public final class PromiseTest {
 
     private static void minutes() {
         SilentCourt x = Due.court(HALL);
-        // by the seed 1 the draws are 18, 35, 7, ...: worked out apart from the class
+        // by the seed 1 the draws are 18, 99, 26, ...: worked out apart from the class
         long seed = 1;
         int scale = 0;
         int coughs = 0;
