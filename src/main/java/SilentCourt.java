@@ -415,9 +415,9 @@ public final class SilentCourt {
         return length;
     }
 
-    private int drawOf(int m) {
+    private int drawOfHundred() {
         drawn = (1103515245 * drawn + 12345) & 0x7fffffff;
-        return drawn / 64 % m;
+        return drawn / 64 % 100;
     }
 
     private int passMinute() {
@@ -425,7 +425,7 @@ public final class SilentCourt {
         bench.tally();
         int coughing = 0;
         for (int number = 0; number < hall.people; number++) {
-            if (hall.itches[number] > 0 && drawOf(100) < hall.itches[number]) {
+            if (hall.itches[number] > 0 && drawOfHundred() < hall.itches[number]) {
                 coughing |= 1 << number;
                 now.keepCough(number, bench.coughs[number]);
             }

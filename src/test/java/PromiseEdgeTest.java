@@ -148,6 +148,17 @@ public final class PromiseEdgeTest {
         Due.is("all", x.end(20), true);
         Due.is("the first seven", x.end(7), true);
         Due.is("alone", x.hall(), 1);
+        // a number and a word that went on behind the end do so no more
+        x.feed(0x68616c6c, 0x2032323b, 0, 0, 0);
+        x.end(6);
+        Due.is("hall 2, of hall 22;", x.hall(), NONE);
+        Due.is("ends too soon, but is no number that can't be", x.fault(0), 1);
+        Due.is("at its length", x.fault(1), 6);
+        x.feed(0x6f667465, 0x6e20616c, 0x6c730000, 0, 0);
+        x.end(9);
+        Due.is("often all, of often alls", x.ask(), 0);
+        Due.is("a word up to the end of a full tape", Due.ask(x, " ".repeat(1591) + "often all"), 0);
+        Due.is("a number up to the end of a full tape", Due.ask(x, " ".repeat(1590) + "total 9999"), 0);
         Due.is("none of none", x.end(0), true);
         x.feed(0, 0, 0, 0, 0);
         Due.is("none", x.end(0), true);
@@ -267,6 +278,18 @@ public final class PromiseEdgeTest {
         Due.is("the first", x.has(7), 0);
         x.point(1);
         Due.is("the last", x.has(7), 1);
+        by(6, "5 MUTES hired,");
+        SilentCourt hired = Due.court("hall 9;mute a keeps 1 costs 0;mute b keeps 1 costs 0;mute c keeps 1 costs 0;"
+                + "mute d keeps 1 costs 0;mute e keeps 1 costs 0;mute f keeps 1 costs 0;");
+        for (int k = 0; k < 6; k++) {
+            Due.is("so far", hired.has(5), k);
+            hired.take(k, k % 2, k);
+        }
+        Due.is("all", hired.has(5), 6);
+        hired.dismiss(0);
+        Due.is("without the first", hired.has(5), 5);
+        hired.dismiss(5);
+        Due.is("without the last", hired.has(5), 4);
         by(6, "9 what is told as KEPT, 10 ACTS that can be undone.");
         Due.is("acts", x.has(10), 2);
         x.minutes(100);
@@ -291,9 +314,11 @@ public final class PromiseEdgeTest {
 
     private static void letter() {
         SilentCourt x = Due.court("hall 9;person azazaz keeps 1 itches 0 for judge at 0;mute z keeps 1 costs 0;"
-                + "mute zyxwvu keeps 1 costs 0;point ab judge 0 rogue 0;");
+                + "mute zyxwvu keeps 1 costs 0;point ab judge 0 rogue 0;point b judge 0 rogue 0;point c judge 0 rogue 0;"
+                + "point dz judge 0 rogue 0;");
         by(8, "1 .. 26; 0 behind it;");
-        int[][] names = {{0, 0, 1, 26, 1, 26, 1, 26}, {1, 0, 26, 0, 0, 0, 0, 0}, {1, 1, 26, 25, 24, 23, 22, 21}, {2, 0, 1, 2, 0, 0, 0, 0}};
+        int[][] names = {{0, 0, 1, 26, 1, 26, 1, 26}, {1, 0, 26, 0, 0, 0, 0, 0}, {1, 1, 26, 25, 24, 23, 22, 21}, {2, 0, 1, 2, 0, 0, 0, 0},
+            {2, 1, 2, 0, 0, 0, 0, 0}, {2, 3, 4, 26, 0, 0, 0, 0}};
         for (int[] name : names) {
             for (int k = 0; k < 6; k++) {
                 Due.is("letter " + k, x.letter(name[0], name[1], k), name[2 + k]);
@@ -310,7 +335,7 @@ public final class PromiseEdgeTest {
         Due.is("a kind more", x.letter(3, 0, 0), NONE);
         Due.is("one more of the people", x.letter(0, 1, 0), NONE);
         Due.is("one more mute", x.letter(1, 2, 0), NONE);
-        Due.is("one more point", x.letter(2, 1, 0), NONE);
+        Due.is("one more point", x.letter(2, 4, 0), NONE);
         Due.is("no mute by number", x.letter(0, 10, 0), NONE);
         by(8, "Letter k (0 .. 5)");
         for (int kind = 0; kind < 3; kind++) {
@@ -358,6 +383,12 @@ public final class PromiseEdgeTest {
 
     private static void mute() {
         SilentCourt x = Due.court(HALL);
+        by(11, "2 whether he is hired.");
+        x.take(1, 0, 3);
+        Due.is("hired", x.mute(1, 2), 1);
+        Due.is("the other one", x.mute(0, 2), 0);
+        x.dismiss(1);
+        Due.is("dismissed", x.mute(1, 2), 0);
         by(11, "NONE when there is none such, or for others.");
         for (int far : FAR) {
             Due.is("mute " + far, x.mute(far, 0), NONE);
@@ -894,11 +925,11 @@ public final class PromiseEdgeTest {
         SilentCourt x = Due.court(HALL);
         x.minutes(90);
         x.take(1, 0, 1);
-        Due.is("taken", on(x, 3, 231, 3, 13, 63, 2, 4, 3, 2, 2, 1, 1, 0), true);
+        Due.is("taken", on(x, 3, 231, 3, 13, 63, 2, 4, 0, 2, 2, 1, 4, 0), true);
         Due.is("minute", x.has(6), 999);
         Due.is("scale", x.scale(), 99999);
         Due.is("asked", x.has(7), 1);
-        int[] who = {11, 10, 2, 1, 0};
+        int[] who = {1, 10, 2, 11, 0};
         for (int seat = 0; seat < 5; seat++) {
             Due.is("seat " + seat, x.seat(seat), who[seat]);
         }

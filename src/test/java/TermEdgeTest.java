@@ -109,6 +109,13 @@ public final class TermEdgeTest {
             Due.is("four, seat " + seat, x.noise(seat, 4), 0);
             Due.is("seven, seat " + seat, x.noise(seat, 7), 0);
         }
+        SilentCourt y = Due.court("hall 9;" + "noise at 0 seat 8 loud 9;".repeat(6));
+        Due.is("six together", y.noise(8, 0), 54);
+        Due.is("six together, far off", y.noise(0, 0), 6);
+        Due.is("six, another minute", y.noise(8, 1), 0);
+        SilentCourt z = Due.court("hall 2;" + person("a", 99, 0, "judge", 0) + "noise at 1 seat 0 loud 9;".repeat(6) + "weigh keeps-noise;");
+        Due.is("six, on the mean", z.mean(3), 9900 + 4500 + 9900);
+        Due.is("of six alike ones the first", z.loudest(3), 0);
     }
 
     private static void worths() {
@@ -246,6 +253,17 @@ public final class TermEdgeTest {
         y.minutes(1);
         Due.is("the last minute", y.kept(0, 0), 998);
         Due.is("the greatest cough", y.kept(0, 2), 999);
+        put(y, 500, MIDDLE_SCALE, 0, 1);
+        y.minutes(1);
+        Due.is("who, in a later minute", y.kept(0, 1), 0);
+        Due.is("a later minute", y.kept(0, 0), 500);
+        SilentCourt z = Due.court("hall 9;" + person("a", 1, 0, "judge", 1) + person("b", 1, 0, "judge", 2)
+                + person("c", 1, 0, "judge", 3) + person("d", 1, 0, "judge", 4) + person("e", 1, 0, "judge", 5)
+                + person("f", 1, 0, "judge", 6) + person("g", 1, 0, "judge", 7) + person("h", 1, 100, "judge", 8) + "cough 999;");
+        put(z, 998, MIDDLE_SCALE, 0, 1, 2, 3, 4, 5, 6, 7, 8);
+        z.minutes(1);
+        Due.is("the last one", z.kept(0, 1), 7);
+        Due.is("in the last minute", z.kept(0, 0), 998);
     }
 
     private static void acts() {
@@ -264,6 +282,11 @@ public final class TermEdgeTest {
         Due.is("where a mute sits", x.take(1, 0, 3), false);
         Due.is("dismissed", x.dismiss(0), true);
         Due.is("where a mute sat", x.take(1, 0, 3), true);
+        x.move(11, 0);
+        x.move(1, 2);
+        Due.is("dismissed from the first seat", x.dismiss(1), true);
+        Due.is("it is free", x.seat(0), NONE);
+        Due.is("for another one", x.take(0, 0, 0), true);
         Due.by("Term II", "The last 20 can be undone.");
         SilentCourt y = Due.court(text);
         for (int k = 0; k < 5; k++) {
@@ -301,6 +324,12 @@ public final class TermEdgeTest {
         put(x, 999, new int[] {1, 134, 167}, 0, 0);
         Due.is("none is left", x.mean(0), 700);
         Due.is("none is left", x.mean(1), NOTHING);
+        SilentCourt noisy = Due.court("hall 2;" + person("a", 50, 0, "judge", 0)
+                + "noise at 1 seat 0 loud 1;noise at 2 seat 0 loud 3;noise at 5 seat 0 loud 9;weigh keeps-noise;");
+        int[] means = {0, 5000, 9900, 14600, 19600, 24600, 28700, 33700};
+        for (int n = 0; n < means.length; n++) {
+            Due.is("each of its own NOISE, " + n, noisy.mean(n), means[n]);
+        }
         Due.by("Term III", "(nothing cut, no other ACTS)");
         SilentCourt y = Due.court("hall 2;" + person("a", 99, 0, "judge", 0));
         put(y, 0, GREATEST_SCALE, 0, 0);
@@ -371,6 +400,10 @@ public final class TermEdgeTest {
         Due.is("he is hired", x.hire(0, 1, 1000, 1), 0);
         Due.is("the other ones", x.hire(0, 1, 2000, 1), 3);
         Due.is("not those who are hired", x.hire(0, 1, 2001, 1), NONE);
+        SilentCourt stays = Due.court("hall 3;mute m keeps 5 costs 0;mute n keeps 50 costs 0;weigh keeps*seat;");
+        stays.take(1, 0, 0);
+        Due.is("who is hired stays where he is", stays.hire(0, 1, 501, 0), NONE);
+        Due.is("the other one comes", stays.hire(0, 1, 500, 1), 1);
         Due.by("Term III", "of like ones the least costs together,");
         SilentCourt y = Due.court("hall 9;mute m keeps 5 costs 3;mute n keeps 5 costs 2;mute o keeps 5 costs 99;mute p keeps 5 costs 1;");
         Due.is("one", y.hire(0, 1, 500, 1), 8);
@@ -450,6 +483,13 @@ public final class TermEdgeTest {
         Due.is("the judge's first", y.points(1, 0), 1);
         Due.is("the rogue's first", y.points(2, 1), 0);
         Due.is("the judge's first again", y.points(3, 2), 1);
+        // MINUTE 0: 9 + asked, MINUTE 1: 9 - asked, MINUTE 2: 9 - 3 asked
+        SilentCourt own = Due.court("hall 2;" + person("a", 1, 0, "judge", 0) + "point p judge 1 rogue 0;point q judge 3 rogue 0;"
+                + "weigh 9+asked*(1-minute*2);");
+        Due.is("each by its own MINUTE", own.points(3, 0), 1);
+        Due.is("each by its own MINUTE", own.points(3, 1), 1);
+        Due.is("each by its own MINUTE", own.points(3, 2), 0);
+        Due.is("each by its own MINUTE", own.points(3, NONE), 1200 + 600 + 600);
         SilentCourt z = Due.court("hall 2;" + person("a", 1, 0, "nobody", 0) + "point p judge 5 rogue 0;point q judge 9 rogue 8;");
         Due.is("all alike", z.points(3, 0) + z.points(3, 1) + z.points(3, 2), 0);
         put(z, 0, GREATEST_SCALE, 0, 0);
@@ -498,6 +538,13 @@ public final class TermEdgeTest {
         Due.is("this minute's", x.loudest(1), 3);
         put(x, 100, MIDDLE_SCALE, 0, 0, 8);
         Due.is("all are over", x.loudest(200), 0);
+        SilentCourt first = Due.court("hall 2;" + person("a", 50, 0, "judge", 0)
+                + "noise at 1 seat 0 loud 5;noise at 0 seat 0 loud 4;noise at 2 seat 0 loud 4;weigh keeps-noise;");
+        Due.is("the first", first.loudest(3), 0);
+        Due.is("the second", first.loudest(1), 1);
+        SilentCourt least = Due.court("hall 2;" + person("a", 50, 99, "judge", 0)
+                + "noise at 0 seat 1 loud 1;noise at 0 seat 0 loud 1;weigh keeps-noise;");
+        Due.is("by a hundredth", least.loudest(1), 1);
         Due.by("Term III", "of like ones the first.");
         SilentCourt y = Due.court("hall 9;" + person("a", 50, 0, "judge", 0) + person("b", 50, 0, "rogue", 8)
                 + "noise at 3 seat 4 loud 1;noise at 2 seat 8 loud 3;noise at 1 seat 0 loud 3;weigh keeps-noise;");
@@ -696,6 +743,16 @@ public final class TermEdgeTest {
         octets(x, 0, 0, 1, 134, 160, 0, 4, 0, 8, 0, 9, 1);
         x.dismiss(1);
         octets(x, 0, 0, 1, 134, 160, 0, 4, 0, 8, 0, 0, 0);
+        x.take(1, 1, 1);
+        x.undo();
+        octets(x, 0, 0, 1, 134, 160, 0, 4, 0, 8, 0, 0, 0);
+        x.take(1, 1, 1);
+        x.hire(1, 1, Integer.MAX_VALUE, 0);
+        put(x, 0, MIDDLE_SCALE, 0, 4, 0, 0, 0, 0, 0);
+        octets(x, 0, 0, 1, 134, 160, 0, 4, 0, 0, 0, 0, 0);
+        x.take(1, 1, 1);
+        Due.hall(x, "hall 9;mute m keeps 1 costs 0;mute n keeps 1 costs 0;");
+        octets(x, 0, 0, 1, 134, 160, 0, 0, 0, 0, 0);
         Due.by("Term IV", "last a byte: all ahead from 229 on, c = (3 c + it) mod 251.");
         // 229 > 185, 53, 160, 112 (3 * 160 + 134 = 614), 245 (3 * 112 + 160 = 496), 233 (3 * 245 = 735)
         SilentCourt y = Due.court("hall 2;");

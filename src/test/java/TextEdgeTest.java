@@ -209,6 +209,13 @@ public final class TextEdgeTest {
         Due.is("four digits", weight("0007"), 7);
         has(1, "hall 9;weigh 1234^5;");
         has(1, "hall 9;weigh 0000^0;");
+        by("PART: N (1 to 4 digits); keeps; itches; near; hated; asked; noise; seat; minute; ( SUM ) ; min ( SUM , SUM ) ; "
+                + "max ( SUM , SUM ) .");
+        has(0, "hall 9;weigh keeps+itches+near+hated+asked+noise+seat+minute+(1)+min(1,2)+max(1,2);");
+        for (String other : new String[] {"number", "party", "beside 1", "all", "not 1", "a", "[1]", "judge", "first", "loud"}) {
+            has(1, "hall 9;" + A + "weigh ^" + other + ";");
+            has(1, "hall 9;" + A + "cough 1+^" + other + ";");
+        }
         by("how he itches (0 of MUTES)");
         SilentCourt x = Due.court("hall 3;person a keeps 2 itches 100 for judge at 0;" + M + "weigh itches+7;");
         x.take(0, 0, 1);
@@ -468,6 +475,10 @@ public final class TextEdgeTest {
         has(0, "hall 9;weigh min(1,max(1,min(1,max(1,min(1,max(1,2))))));");
         has(4, "hall 9;weigh min(1,max(1,min(1,max(1,min(1,max(1,^(2)))))));");
         has(4, "hall 9;weigh ((((((min^(1,2)))))));");
+        has(0, "hall 9;weigh min((((((1))))),2);");
+        has(4, "hall 9;weigh min((((((^(1)))))),2);");
+        has(4, "hall 9;weigh min(1,(((((^(2)))))));");
+        has(0, "hall 9;weigh min(((((1)))),2)+min(1,(((((2))))));");
         has(4, "hall 9;weigh ((((((max ^(1,2)))))));");
         has(1, "hall 9;weigh ((((((min ^1");
         has(0, "hall 9;weigh (((((min(1,2))))));");
