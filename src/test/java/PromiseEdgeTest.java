@@ -868,6 +868,7 @@ public final class PromiseEdgeTest {
         Due.is("without, a wrong one", Due.ask(none, "often al"), NOTHING);
         Due.is("no fault, either", none.fault(0), 0);
         Due.is("no place, either", none.fault(1), NONE);
+        Due.is("but the tape goes", none.end(1), false);
         Due.hall(none, "hall 1;");
         Due.is("no hall yet", Due.ask(none, "often all"), NOTHING);
         Due.is("the latest fault stays", none.fault(0), 2);

@@ -490,6 +490,13 @@ public final class TermEdgeTest {
         Due.is("each by its own MINUTE", own.points(3, 1), 1);
         Due.is("each by its own MINUTE", own.points(3, 2), 0);
         Due.is("each by its own MINUTE", own.points(3, NONE), 1200 + 600 + 600);
+        // a POINT tells the more, the louder it is in its MINUTE
+        SilentCourt noisy = Due.court("hall 2;" + person("a", 1, 0, "judge", 0) + "point p judge 1 rogue 0;point q judge 5 rogue 0;"
+                + "noise at 0 seat 0 loud 4;noise at 2 seat 1 loud 3;weigh asked*noise;");
+        Due.is("each by its own NOISE", noisy.points(3, 0), 1);
+        Due.is("each by its own NOISE", noisy.points(3, 1), 0);
+        Due.is("each by its own NOISE", noisy.points(3, 2), 1);
+        Due.is("each by its own NOISE", noisy.points(3, NONE), 2000 + 1000);
         SilentCourt z = Due.court("hall 2;" + person("a", 1, 0, "nobody", 0) + "point p judge 5 rogue 0;point q judge 9 rogue 8;");
         Due.is("all alike", z.points(3, 0) + z.points(3, 1) + z.points(3, 2), 0);
         put(z, 0, GREATEST_SCALE, 0, 0);
