@@ -491,6 +491,7 @@ public final class PromiseEdgeTest {
         Due.is("51", x.hire(0, 51, LEAST, 0), NONE);
         Due.is("the rogue", x.hire(1, 1, -380, 0), 0);
         Due.is("nobody", x.hire(2, 1, LEAST, 0), NONE);
+        Due.is("less than nobody", x.hire(-1, 1, LEAST, 0), NONE);
         by(16, "NONE when it can't be, something can't be, or for others.");
         Due.is("all mutes", x.hire(0, 1, 1330, 0), 2);
         Due.is("more than all mutes", x.hire(0, 1, 1331, 0), NONE);
@@ -522,6 +523,13 @@ public final class PromiseEdgeTest {
         for (int far : FAR) {
             Due.is("party " + far, x.change(far, 0), NONE);
             Due.is("what " + far, x.change(0, far), NONE);
+        }
+        SilentCourt rogue = Due.court("hall 3;person a keeps 1 itches 0 for rogue at 0;person b keeps 1 itches 0 for judge at 2;weigh seat;");
+        Due.is("the rogue", rogue.change(1, 0) * 10 + rogue.change(1, 1), 1);
+        Due.is("nobody, where the rogue has one", rogue.change(2, 0), NONE);
+        Due.is("nobody, where the rogue has one", rogue.change(2, 1), NONE);
+        for (int far : FAR) {
+            Due.is("party " + far + ", where the rogue has one", rogue.change(far, 1), NONE);
         }
         Due.is("nobody sits", Due.court("hall 2;").change(0, 0), NONE);
     }

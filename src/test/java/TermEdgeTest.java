@@ -95,6 +95,24 @@ public final class TermEdgeTest {
         Due.is("all who sit", Due.ask(x, "total number*100+1"), 2604);
         x.dismiss(5);
         Due.is("the last who sits now", Due.ask(x, "last all"), 10);
+        SilentCourt y = Due.court("hall 3;" + person("a", 3, 0, "judge", 0) + "mute m keeps 9 costs 0;point p judge 0 rogue 0;");
+        for (int party = 0; party < 2; party++) {
+            y.take(0, party, 1);
+            Due.is("who is hired counts", y.fell(party == 0 ? 12 : -6, 0), 1);
+            y.dismiss(0);
+            Due.is("who is dismissed does not: fell", y.fell(3, 0), 1);
+            Due.is("who is dismissed does not: asked", y.asked(3, 0), 1);
+            Due.is("who is dismissed does not: odds", y.odds(0), 1000000);
+            Due.is("who is dismissed does not: mean", y.mean(1), 300);
+            y.minutes(1);
+            Due.is("who is dismissed does not: minutes", y.scale(), 3);
+            y.undo();
+        }
+        y.take(0, 0, 1);
+        y.minutes(1);
+        y.undo();
+        y.undo();
+        Due.is("nor one who was never hired", y.fell(3, 0), 1);
     }
 
     private static void noise() {
@@ -330,6 +348,19 @@ public final class TermEdgeTest {
         for (int n = 0; n < means.length; n++) {
             Due.is("each of its own NOISE, " + n, noisy.mean(n), means[n]);
         }
+        String[] sums = {"weigh minute;cough 0;", "cough 0;weigh minute;", "weigh minute;cough minute;"};
+        for (String sum : sums) {
+            SilentCourt own = Due.court("hall 2;" + person("a", 1, 0, "judge", 0) + sum);
+            Due.is("each its own WEIGHT, " + sum, own.mean(4), 600);
+            own.minutes(4);
+            Due.is("each its own WEIGHT, " + sum, own.scale(), 6);
+        }
+        for (String sum : new String[] {"weigh 0;cough minute;", "cough minute;weigh 0;"}) {
+            SilentCourt own = Due.court("hall 2;" + person("a", 1, 100, "judge", 0) + sum);
+            Due.is("each its own COUGH, " + sum, own.mean(4), -600);
+            own.minutes(4);
+            Due.is("each its own COUGH, " + sum, own.scale(), -6);
+        }
         Due.by("Term III", "(nothing cut, no other ACTS)");
         SilentCourt y = Due.court("hall 2;" + person("a", 99, 0, "judge", 0));
         put(y, 0, GREATEST_SCALE, 0, 0);
@@ -396,6 +427,8 @@ public final class TermEdgeTest {
         Due.is("one dear one, not two cheap ones", x.hire(0, 1, 1000, 1), 4);
         Due.is("what he costs", x.hire(0, 1, 1000, 2), 99);
         Due.is("one", x.hire(0, 1, 1000, 0), 1);
+        SilentCourt dear = Due.court("hall 9;mute o keeps 10 costs 99;mute m keeps 5 costs 0;mute n keeps 5 costs 0;");
+        Due.is("one dear one who is the first, not two cheap ones", dear.hire(0, 1, 1000, 1), 1);
         x.take(2, 0, 0);
         Due.is("he is hired", x.hire(0, 1, 1000, 1), 0);
         Due.is("the other ones", x.hire(0, 1, 2000, 1), 3);
@@ -646,6 +679,18 @@ public final class TermEdgeTest {
         question(1, "total 1^keeps");
         question(1, "often^1<2");
         question(1, "often [all^)");
+        for (char other : new char[] {';', ',', ')', ']', '[', '(', '!', ':', '?', '@'}) {
+            question(1, "often 1^" + other + "2");
+            question(1, "often keeps ^" + other + "= 2");
+        }
+        question(1, "often 1 ^2");
+        question(1, "often 1 ^keeps");
+        question(1, "often keeps ^and all");
+        question(1, "often keeps ^or 1<2");
+        question(1, "often [1^]");
+        question(1, "often 1=^=2");
+        question(1, "often 1<^=2");
+        question(1, "often 1>^<2");
         question(1, "often (^all<1)");
         question(1, "total ^all");
         question(1, "first ^");

@@ -209,6 +209,11 @@ public final class TextEdgeTest {
         Due.is("four digits", weight("0007"), 7);
         has(1, "hall 9;weigh 1234^5;");
         has(1, "hall 9;weigh 0000^0;");
+        for (char other : new char[] {':', '.', '_', 'x', (char) 178, (char) 255}) {
+            has(1, "hall 9^" + other + ";");
+            has(1, "hall 9;weigh 1^" + other + "2;");
+        }
+        has(1, "hall 9^/;");
         by("PART: N (1 to 4 digits); keeps; itches; near; hated; asked; noise; seat; minute; ( SUM ) ; min ( SUM , SUM ) ; "
                 + "max ( SUM , SUM ) .");
         has(0, "hall 9;weigh keeps+itches+near+hated+asked+noise+seat+minute+(1)+min(1,2)+max(1,2);");
@@ -311,6 +316,10 @@ public final class TextEdgeTest {
         has(1, "hall 9;person ^1 keeps");
         has(1, "hall 9;person ^{ keeps");
         has(1, "hall 9;person ^` keeps");
+        for (char other : new char[] {'{', '`', '_', 'A', 'Z', '-', (char) 127, (char) 225, (char) 255}) {
+            has(1, "hall 9;person a^" + other + "a keeps 1 itches 0 for judge at 0;");
+            has(1, "hall 9;mute az^" + other + " keeps 1 costs 0;");
+        }
         by("unlike ones (of all sorts),");
         String[] firsts = {A, "mute a keeps 1 costs 0;", "point a judge 0 rogue 0;"};
         String[] seconds = {"person ^a keeps 1 itches 0 for judge at 1;", "mute ^a keeps 1 costs 0;", "point ^a judge 0 rogue 0;"};
