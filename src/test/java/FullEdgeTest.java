@@ -150,6 +150,13 @@ public final class FullEdgeTest {
         // one half to the 8: all cough
         Due.is("all eight cough", y.odds(2), 3906);
         Due.is("else more", y.odds(0), 996093);
+        // one hundredth to the 8: all but a part of 10 to the 16 is still no whole million of millionths
+        SilentCourt rare = court(9, people(8, 1, "judge", "1 for judge") + "weigh 1;cough 0;");
+        Due.is("all eight cough, hardly ever", rare.odds(2), 0);
+        Due.is("else more, not quite always", rare.odds(0), 999999);
+        Due.is("never less", rare.odds(1), 0);
+        SilentCourt often = court(9, people(8, 99, "judge", "99 for judge") + "weigh 1;cough 0;");
+        Due.is("hardly ever all are silent", often.fell(8, 0), 1);
         SilentCourt all = court(9, people(8, 100, "judge", "100 for judge"));
         Due.is("all itch by a hundred", all.odds(1), 1000000);
         Due.is("none is silent", all.odds(0) + all.odds(2), 0);

@@ -223,6 +223,12 @@ public final class PromiseEdgeTest {
         Due.is("scale", x.scale(), 0);
         Due.is("seats", x.sits(0, 0), 0);
         Due.is("no fault is told", x.fault(0), 0);
+        SilentCourt often = new SilentCourt();
+        for (int k = 0; k < 50; k++) {
+            Due.hall(often, "hall 2;person a keeps 7 itches 0 for judge at 0;weigh keeps+" + k + ";cough keeps*" + k + ";");
+            Due.is("hall " + k + ", its weigh", often.sits(0, 6), 7 + k);
+            Due.is("hall " + k + ", its cough", often.sits(0, 7), 7 * k);
+        }
         Due.is("a lesser hall", Due.hall(x, "hall 2;"), 1);
         for (int what = 1; what <= 10; what++) {
             Due.is("has " + what, x.has(what), what == 7 ? NONE : 0);
@@ -869,6 +875,11 @@ public final class PromiseEdgeTest {
         Due.is("it goes, with a fault, too", x.end(1), false);
         Due.ask(x, "often all");
         Due.is("it goes", x.end(1), false);
+        // as many as an object's 512 calls allow: none leaves anything for the next one
+        SilentCourt many = Due.court("hall 2;person a keeps 7 itches 0 for judge at 0;");
+        for (int k = 0; k < 120; k++) {
+            Due.is("question " + k, Due.ask(many, "total keeps+" + k), 7 + k);
+        }
         by(29, "or, doing nothing else, without a hall.");
         SilentCourt none = new SilentCourt();
         Due.is("without", Due.ask(none, "often all"), NOTHING);
