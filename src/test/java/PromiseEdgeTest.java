@@ -509,10 +509,17 @@ public final class PromiseEdgeTest {
             Due.is("n " + far, x.hire(0, far, 0, 0), NONE);
             Due.is("what " + far, x.hire(0, 1, 0, far), NONE);
         }
-        Due.is("up to 999", at(949).hire(0, 50, LEAST, 0), 0);
-        Due.is("beyond 999", at(950).hire(0, 50, LEAST, 0), NONE);
-        Due.is("no minute is left", at(999).hire(0, 1, LEAST, 0), NONE);
         Due.is("no act", x.has(5) + x.has(10), 0);
+        // other than mean, points and loudest it does not say "MINUTE 999 would be passed"
+        int[][] rows = {{949, 50, 50}, {950, 50, 49}, {950, 49, 49}, {997, 3, 2}, {998, 1, 1}, {998, 2, 1}, {998, 50, 1}};
+        for (int[] row : rows) {
+            int due = 380 * row[2];
+            Due.is("n can be at MINUTE " + row[0], at(row[0]).hire(0, row[1], due, 0), 0);
+            Due.is("a hundredth more at MINUTE " + row[0], at(row[0]).hire(0, row[1], due + 1, 1), 2);
+            Due.is("all mutes at MINUTE " + row[0], at(row[0]).hire(0, row[1], due + 950 * row[2], 2), 11);
+            Due.is("more than all mutes at MINUTE " + row[0], at(row[0]).hire(0, row[1], due + 950 * row[2] + 1, 0), NONE);
+        }
+        Due.is("n can't be", at(998).hire(0, 51, LEAST, 0), NONE);
     }
 
     private static void change() {

@@ -342,6 +342,7 @@ public final class TermEdgeTest {
         put(x, 999, new int[] {1, 134, 167}, 0, 0);
         Due.is("none is left", x.mean(0), 700);
         Due.is("none is left", x.mean(1), NOTHING);
+        hiredLate();
         SilentCourt noisy = Due.court("hall 2;" + person("a", 50, 0, "judge", 0)
                 + "noise at 1 seat 0 loud 1;noise at 2 seat 0 loud 3;noise at 5 seat 0 loud 9;weigh keeps-noise;");
         int[] means = {0, 5000, 9900, 14600, 19600, 24600, 28700, 33700};
@@ -370,6 +371,26 @@ public final class TermEdgeTest {
         Due.is("below", z.mean(200), -9999900 - 200 * 9900);
         Due.is("the scale stays", z.scale(), -99999);
         Due.is("no act", z.has(6) + z.has(10), 0);
+    }
+
+    /** HIRED names no MINUTE that would be passed: its MEAN is of as many MINUTES as there are. */
+    private static void hiredLate() {
+        SilentCourt x = Due.court("hall 2;" + person("a", 1, 0, "judge", 0) + "mute m keeps 2 costs 7;");
+        put(x, 990, new int[] {1, 134, 167}, 0, 0, 0, 0);
+        Due.is("nine are left", x.hire(0, 50, 700 + 900, 0), 0);
+        Due.is("nine are left, a hundredth more", x.hire(0, 50, 700 + 901, 0), 1);
+        Due.is("nine are left with the mute", x.hire(0, 50, 700 + 2700, 2), 7);
+        Due.is("no more with the mute", x.hire(0, 50, 700 + 2701, 0), NONE);
+        Due.is("the rogue's", x.hire(1, 10, -1600, 0), 0);
+        Due.is("the rogue's, a hundredth more", x.hire(1, 10, -1599, 1), 1);
+        Due.is("the rogue's with the mute", x.hire(1, 10, 200, 0), 1);
+        Due.is("no more for the rogue", x.hire(1, 10, 201, 0), NONE);
+        put(x, 999, new int[] {1, 134, 167}, 0, 0, 0, 0);
+        Due.is("none is left", x.hire(0, 1, 700, 0), 0);
+        Due.is("none is left", x.hire(0, 50, 701, 0), NONE);
+        Due.is("none is left for the rogue", x.hire(1, 50, -700, 0), 0);
+        Due.is("none is left for the rogue", x.hire(1, 1, -699, 0), NONE);
+        Due.is("the rest stays as it is", x.has(6) * 10 + x.has(5) + x.has(10), 9990);
     }
 
     private static void odds() {
