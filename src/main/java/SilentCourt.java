@@ -627,10 +627,10 @@ public final class SilentCourt {
     /** Turns a SUM or a TEST into steps, each part ahead of what reckons with it. */
     private static final class Grammar {
         /** What binds: TEST binds loosest. A PART of one level is of the next one. */
-        private static final int TEST = 0;
+        static final int TEST = 0;
         private static final int ALL_OF = 1;
         private static final int FACT = 2;
-        private static final int SUM = 3;
+        static final int SUM = 3;
         private static final int PRODUCT = 4;
         private static final int PART = 5;
 
@@ -644,18 +644,8 @@ public final class SilentCourt {
             this.reader = reader;
         }
 
-        boolean readTest() {
-            begin(true);
-            return chain(TEST, 0);
-        }
-
         /** A QUESTION knows more PARTS than a HALL. */
-        boolean readSum(boolean ofQuestion) {
-            begin(ofQuestion);
-            return chain(SUM, 0);
-        }
-
-        private void begin(boolean ofQuestion) {
+        void begin(boolean ofQuestion) {
             asking = ofQuestion;
             namesMinute = false;
             length = 0;
@@ -682,7 +672,8 @@ public final class SilentCourt {
             return true;
         }
 
-        private boolean chain(int level, int open) {
+        /** All of one level, behind what is open already; it puts its steps behind those that are there. */
+        boolean chain(int level, int open) {
             if (level == FACT) {
                 return fact(open);
             }
@@ -1031,7 +1022,11 @@ public final class SilentCourt {
 
         private boolean worth(boolean ofWeigh) {
             int[] before = ofWeigh ? hall.weigh : hall.cough;
-            if (!begins(before == null ? 0 : 1, 1) || !grammar.readSum(false)) {
+            if (!begins(before == null ? 0 : 1, 1)) {
+                return false;
+            }
+            grammar.begin(false);
+            if (!grammar.chain(Grammar.SUM, 0)) {
                 return false;
             }
             hall.namesMinute = hall.namesMinute || grammar.namesMinute;
@@ -1581,7 +1576,8 @@ public final class SilentCourt {
             }
             verb = word;
             reader.step();
-            boolean good = isOfTest() ? grammar.readTest() : grammar.readSum(true);
+            grammar.begin(true);
+            boolean good = grammar.chain(isOfTest() ? Grammar.TEST : Grammar.SUM, 0);
             if (good && reader.kind != Reader.ENDED) {
                 return reader.fail(NO_SUCH_TEXT, reader.start);
             }
