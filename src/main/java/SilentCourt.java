@@ -240,7 +240,7 @@ public final class SilentCourt {
     // ---- mutes, seats, points, coughs
 
     public int hire(int party, int n, int least, int what) {
-        if (!isSide(party) || n < 1 || n > 50 || what < 0 || what > 2) {
+        if (!isSide(party) || n < 1 || n > 50 || now.minute + n > LAST_MINUTE || what < 0 || what > 2) {
             return NONE;
         }
         int bits = counsel.hired(hall, now, party, n, least);
@@ -1302,11 +1302,11 @@ public final class SilentCourt {
             return party == JUDGE ? 1 : party == ROGUE ? -1 : 0;
         }
 
-        /** Of n MINUTES only as many are reckoned as there are: behind the last one nothing moves the SCALE. */
+        /** Who calls sees to it that there are n MINUTES up to the last one. */
         long meanOf(int n) {
             int first = minute;
             long mean = 100L * sitting.scale;
-            for (int k = 0; k < n && first + k < LAST_MINUTE; k++) {
+            for (int k = 0; k < n; k++) {
                 minute = first + k;
                 tally();
                 mean += meanSwing();

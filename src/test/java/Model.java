@@ -264,7 +264,7 @@ final class Model {
     }
 
     int hire(int party, int n, int least, int what) {
-        if (party < 0 || party > 1 || n < 1 || n > 50 || what < 0 || what > 2) {
+        if (party < 0 || party > 1 || n < 1 || n > 50 || now.minute + n > 999 || what < 0 || what > 2) {
             return NONE;
         }
         List<int[]> good = new ArrayList<>();
@@ -284,8 +284,7 @@ final class Model {
                     s.party.put(10 + k, party);
                 }
             }
-            long mean = can ? meanOf(s, Math.min(n, 999 - now.minute)) : 0;
-            if (can && (party == 0 ? mean : -mean) >= least) {
+            if (can && (party == 0 ? meanOf(s, n) : -meanOf(s, n)) >= least) {
                 good.add(new int[] {Integer.bitCount(bits), bits, costs});
             }
         }

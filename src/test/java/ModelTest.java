@@ -433,9 +433,9 @@ public final class ModelTest {
 
     private void hire(int party, int what) {
         int n = model.hall.people.size() > 4 || model.hall.mutes.size() > 3 ? from(0, 1) : below(5) == 0 ? from(-1, 51) : from(1, 3);
-        long mean = model.mean(Math.max(0, Math.min(Math.min(n, 50), 999 - model.now.minute)));
+        long mean = model.mean(Math.max(0, Math.min(n, 50)));
         int more = below(3) == 0 ? 0 : from(-5000, 20000);
-        int least = (int) ((party == 1 ? -mean : mean) + more);
+        int least = (int) ((mean == Model.NOTHING ? 0 : party == 1 ? -mean : mean) + more);
         is("hire " + party + " " + n + " " + least + " " + what, court.hire(party, n, least, what),
                 model.hire(party, n, least, what));
     }

@@ -510,16 +510,23 @@ public final class PromiseEdgeTest {
             Due.is("what " + far, x.hire(0, 1, 0, far), NONE);
         }
         Due.is("no act", x.has(5) + x.has(10), 0);
-        // other than mean, points and loudest it does not say "MINUTE 999 would be passed"
-        int[][] rows = {{949, 50, 50}, {950, 50, 49}, {950, 49, 49}, {997, 3, 2}, {998, 1, 1}, {998, 2, 1}, {998, 50, 1}};
-        for (int[] row : rows) {
-            int due = 380 * row[2];
-            Due.is("n can be at MINUTE " + row[0], at(row[0]).hire(0, row[1], due, 0), 0);
-            Due.is("a hundredth more at MINUTE " + row[0], at(row[0]).hire(0, row[1], due + 1, 1), 2);
-            Due.is("all mutes at MINUTE " + row[0], at(row[0]).hire(0, row[1], due + 950 * row[2], 2), 11);
-            Due.is("more than all mutes at MINUTE " + row[0], at(row[0]).hire(0, row[1], due + 950 * row[2] + 1, 0), NONE);
+        // n MINUTES that end at the last one can be, one more can't, however little is asked for
+        for (int[] row : new int[][] {{949, 50}, {950, 49}, {997, 2}, {998, 1}}) {
+            int minute = row[0];
+            int n = row[1];
+            int due = 380 * n;
+            Due.is("up to 999 from " + minute, at(minute).hire(0, n, due, 0), 0);
+            Due.is("a hundredth more from " + minute, at(minute).hire(0, n, due + 1, 1), 2);
+            Due.is("all mutes from " + minute, at(minute).hire(0, n, due + 950 * n, 2), 11);
+            Due.is("more than all mutes from " + minute, at(minute).hire(0, n, due + 950 * n + 1, 0), NONE);
         }
-        Due.is("n can't be", at(998).hire(0, 51, LEAST, 0), NONE);
+        for (int[] row : new int[][] {{950, 50}, {951, 49}, {997, 3}, {998, 2}, {998, 50}, {999, 1}, {999, 50}}) {
+            for (int what = 0; what < 3; what++) {
+                String call = "beyond 999 from " + row[0] + ", what " + what;
+                Due.is(call, at(row[0]).hire(0, row[1], LEAST, what), NONE);
+                Due.is(call, at(row[0]).hire(1, row[1], LEAST, what), NONE);
+            }
+        }
     }
 
     private static void change() {

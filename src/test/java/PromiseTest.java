@@ -379,8 +379,7 @@ public final class PromiseTest {
         Due.is("16: not more", z.hire(0, 1, 401, 1), NONE);
         Due.on(z, Due.sealed(3, 0xe7 - 1, 1, 134, 160, 0, 1, 0, 0, 0, 0));
         Due.is("16: up to 999", z.hire(0, 1, 400, 0), 2);
-        Due.is("16: as many as there are up to 999", z.hire(0, 2, 400, 0), 2);
-        Due.is("16: as many as there are up to 999", z.hire(0, 2, 401, 0), NONE);
+        Due.is("16: beyond 999", z.hire(0, 2, 0, 0), NONE);
     }
 
     private static void change() {

@@ -373,23 +373,23 @@ public final class TermEdgeTest {
         Due.is("no act", z.has(6) + z.has(10), 0);
     }
 
-    /** HIRED names no MINUTE that would be passed: its MEAN is of as many MINUTES as there are. */
+    /** Where there are not n MINUTES there is no such MEAN, and so none HIRED. */
     private static void hiredLate() {
         SilentCourt x = Due.court("hall 2;" + person("a", 1, 0, "judge", 0) + "mute m keeps 2 costs 7;");
         put(x, 990, new int[] {1, 134, 167}, 0, 0, 0, 0);
-        Due.is("nine are left", x.hire(0, 50, 700 + 900, 0), 0);
-        Due.is("nine are left, a hundredth more", x.hire(0, 50, 700 + 901, 0), 1);
-        Due.is("nine are left with the mute", x.hire(0, 50, 700 + 2700, 2), 7);
-        Due.is("no more with the mute", x.hire(0, 50, 700 + 2701, 0), NONE);
-        Due.is("the rogue's", x.hire(1, 10, -1600, 0), 0);
-        Due.is("the rogue's, a hundredth more", x.hire(1, 10, -1599, 1), 1);
-        Due.is("the rogue's with the mute", x.hire(1, 10, 200, 0), 1);
-        Due.is("no more for the rogue", x.hire(1, 10, 201, 0), NONE);
+        Due.is("nine are left", x.hire(0, 9, 700 + 900, 0), 0);
+        Due.is("nine are left, a hundredth more", x.hire(0, 9, 700 + 901, 0), 1);
+        Due.is("nine are left with the mute", x.hire(0, 9, 700 + 2700, 2), 7);
+        Due.is("no more with the mute", x.hire(0, 9, 700 + 2701, 0), NONE);
+        Due.is("the rogue's", x.hire(1, 9, -1600, 0), 0);
+        Due.is("the rogue's, a hundredth more", x.hire(1, 9, -1599, 1), 1);
+        Due.is("the rogue's with the mute", x.hire(1, 9, 200, 0), 1);
+        Due.is("no more for the rogue", x.hire(1, 9, 201, 0), NONE);
+        Due.is("no tenth one", x.hire(0, 10, 0, 0), NONE);
+        Due.is("no tenth one for the rogue", x.hire(1, 10, -9999, 0), NONE);
         put(x, 999, new int[] {1, 134, 167}, 0, 0, 0, 0);
-        Due.is("none is left", x.hire(0, 1, 700, 0), 0);
-        Due.is("none is left", x.hire(0, 50, 701, 0), NONE);
-        Due.is("none is left for the rogue", x.hire(1, 50, -700, 0), 0);
-        Due.is("none is left for the rogue", x.hire(1, 1, -699, 0), NONE);
+        Due.is("none is left", x.hire(0, 1, 700, 0), NONE);
+        Due.is("none is left for the rogue", x.hire(1, 50, -700, 0), NONE);
         Due.is("the rest stays as it is", x.has(6) * 10 + x.has(5) + x.has(10), 9990);
     }
 
